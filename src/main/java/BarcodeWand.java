@@ -687,7 +687,6 @@ public final class BarcodeWand {
             int t3 = times.at(start + 3);
             sumOfTimes = t0 + t1 + t2 + t3;
             nearestDigit = NONE;
-            isTied = false;
             for (int place = 0; place + 3 < WIDTHS.length; place += ELEMENTS_OF_DIGIT) {
                 int distance = amountOff(t0, WIDTHS[place]) + amountOff(t1, WIDTHS[place + 1])
                         + amountOff(t2, WIDTHS[place + 2]) + amountOff(t3, WIDTHS[place + 3]);

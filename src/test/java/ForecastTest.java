@@ -59,6 +59,8 @@ public final class ForecastTest {
         // the bar of 20 tenths is right up to 29, the space of 10 up to 13
         DUE.is("greatestSmudge(36)", wand.greatestSmudge(36), 109);
         DUE.is("greatestSmudge(35)", wand.greatestSmudge(35), 103);
+        // the space of a 1 with 28 tenths: the times 56 40 40 20, S is 156, the distance 160 is too great
+        DUE.is("greatestSmudge(3)", wand.greatestSmudge(3), 107);
         wand.smudge(0, -2);
         // 2 * greatest < 24, so 11 tenths
         DUE.is("greatestSmudge(1) beside a narrow bar", wand.greatestSmudge(1), 101);
@@ -69,6 +71,9 @@ public final class ForecastTest {
         wand.smudge(0, -5);
         wand.smudge(2, -5);
         DUE.is("greatestSmudge(1) must be less than 0", wand.greatestSmudge(1), 97);
+        wand.smudge(0, -9);
+        wand.smudge(2, -9);
+        DUE.is("greatestSmudge(1) must be the least one", wand.greatestSmudge(1), 91);
         DUE.is("its own smudge stays", wand.smudge(1, 0), 0);
         DUE.is("no times", wand.times(), 0);
     }
@@ -98,6 +103,9 @@ public final class ForecastTest {
         Due.remeasure(wand, 20, 10, 10, 10, 20, 30, 10, 10, 26, 24, 10, 10, 10);
         wand.setTolerance(1);
         DUE.is("leastTolerance of the distance 84 backwards", wand.leastTolerance(), 5);
+        // the distance of 6 is 126, S is 70
+        Due.remeasure(wand, 10, 10, 10, 19, 10, 10, 31, 20, 10, 20, 20, 10, 20);
+        DUE.is("leastTolerance of the distance 126", wand.leastTolerance(), 8);
         DUE.is("the tolerance stays", wand.setTolerance(4), 1);
         Due.remeasure(wand, 10, 10, 10, 20, 15, 20, 15, 30, 20, 10, 10, 10, 20);
         DUE.is("leastTolerance of tied digits", wand.leastTolerance(), -1);

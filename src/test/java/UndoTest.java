@@ -167,6 +167,8 @@ public final class UndoTest {
         DUE.is("digest of a used object", used.digest(), hashOf(used, smudges));
         used.smudge(12, -9);
         smudges[12] = -9;
+        used.draw(1, 50, false);
+        DUE.is("a failure for the digest", used.failures(), 1);
         DUE.is("digest of a smudged label", used.digest(), hashOf(used, smudges));
         long digest = used.digest();
         DUE.is("digest changes nothing", used.digest(), digest);
