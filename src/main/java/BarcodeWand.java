@@ -701,7 +701,8 @@ public final class BarcodeWand {
         }
 
         private int amountOff(int time, int width) {
-            return Math.abs(MODULES_OF_DIGIT * time - sumOfTimes * width);
+            int off = MODULES_OF_DIGIT * time - sumOfTimes * width;
+            return off < 0 ? -off : off;
         }
 
         private void layOut(Row times, boolean isBackwards) {

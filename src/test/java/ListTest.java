@@ -10,7 +10,10 @@ public final class ListTest {
         testLengthsMakeCodesDifferent();
         testEleventhCode();
         testSuccessesAndFailures();
+        testGreatestCounts();
+        testFailedReadingsAreNotListed();
         testWrongInputs();
+        testWrongInputsOfAFullList();
         DUE.end();
     }
 
@@ -94,6 +97,58 @@ public final class ListTest {
         DUE.is("successes after undo", wand.successes(), 0);
         DUE.is("failures after undo", wand.failures(), 1);
         DUE.is("codes after undo", wand.codes(), 0);
+    }
+
+    // the greatest counts that 512 calls reach without a text, and far more with texts
+    private static void testGreatestCounts() {
+        BarcodeWand wand = new BarcodeWand();
+        wand.print(99999999, 8);
+        for (int k = 1; k <= 500; k++) {
+            DUE.is("draw number " + k, wand.draw(20, 20, k % 2 == 0), k % 2 == 0 ? -1 : 0);
+        }
+        DUE.is("count of 500", wand.count(0), 500);
+        DUE.is("successes of 500", wand.successes(), 500);
+        DUE.is("failures of 500", wand.failures(), 0);
+        DUE.is("codes of 500", wand.codes(), 1);
+        DUE.is("the greatest code", wand.code(0), 999999996);
+        wand.undo();
+        DUE.is("count after undo", wand.count(0), 499);
+        BarcodeWand unread = new BarcodeWand();
+        for (int k = 0; k < 500; k++) {
+            unread.read();
+        }
+        DUE.is("500 failures", unread.failures(), 500);
+        DUE.is("no successes", unread.successes(), 0);
+    }
+
+    // "If the reading succeeds, the code is added to the list": only then
+    private static void testFailedReadingsAreNotListed() {
+        BarcodeWand wand = new BarcodeWand();
+        drawLabel(wand, 5, 1);
+        wand.smudge(0, 9);
+        DUE.is("draw fails", wand.draw(20, 20, false), 2);
+        DUE.is("read fails", wand.read(), 2);
+        DUE.is("codes after failures", wand.codes(), 1);
+        DUE.is("count after failures", wand.count(0), 1);
+        DUE.is("failures", wand.failures(), 2);
+        wand.smudge(0, 0);
+        DUE.is("draw succeeds", wand.draw(20, 20, false), 0);
+        DUE.is("count after a success", wand.count(0), 2);
+    }
+
+    private static void testWrongInputsOfAFullList() {
+        BarcodeWand wand = new BarcodeWand();
+        for (int digits = 0; digits < 12; digits++) {
+            drawLabel(wand, digits, 2);
+            int next = Math.min(digits + 1, 10);
+            DUE.isTrue("the last code of " + next, wand.code(next - 1) / 10 == digits);
+            DUE.is("the last length of " + next, wand.codeLength(next - 1), 3);
+            DUE.is("the last count of " + next, wand.count(next - 1), 1);
+            DUE.isOutOfBounds("code(" + next + ")", () -> wand.code(next));
+            DUE.isOutOfBounds("codeLength(" + next + ")", () -> wand.codeLength(next));
+            DUE.isOutOfBounds("count(" + next + ")", () -> wand.count(next));
+        }
+        DUE.is("the first of twelve codes that stays", wand.code(0), 24);
     }
 
     private static void testWrongInputs() {

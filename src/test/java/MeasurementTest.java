@@ -118,6 +118,14 @@ public final class MeasurementTest {
         wand.undo();
         DUE.is("times after undo of clear", wand.times(), 3);
         DUE.is("time after undo of clear", wand.time(2), 7);
+        for (int k = 3; k < 41; k++) {
+            wand.measure(8);
+        }
+        DUE.is("clear of all 41", wand.clearMeasurement(), 41);
+        DUE.is("clear again", wand.clearMeasurement(), 0);
+        wand.undo();
+        wand.undo();
+        DUE.is("times after two undos", wand.times(), 41);
     }
 
     private static void testRead() {

@@ -16,7 +16,9 @@ public final class ReadingTest {
         testGreatestReason();
         testForwardsBeforeBackwards();
         testDigit();
+        testLastDigits();
         testNearest();
+        testNearestToTheLastTimes();
         testNothingIsCounted();
         DUE.end();
     }
@@ -192,6 +194,50 @@ public final class ReadingTest {
         DUE.is("nearest of 9999 1 1 1", wand.nearest(0), 0);
         Due.remeasure(wand, 1, 1, 1, 9999);
         DUE.is("nearest of 1 1 1 9999", wand.nearest(0), 6);
+    }
+
+    // "NONE if the reading fails, or the code has no such digit", "if digit is not 0 to 8"
+    private static void testLastDigits() {
+        BarcodeWand wand = new BarcodeWand();
+        for (int count = 1; count <= 8; count++) {
+            int check = wand.print(7, count);
+            wand.draw(20, 20, count % 2 == 0);
+            DUE.is("the first digit of " + (count + 1), wand.digit(0), count == 1 ? 7 : 0);
+            DUE.is("the last digit of " + (count + 1), wand.digit(count), check);
+            for (int digit = count + 1; digit <= 8; digit++) {
+                DUE.is("no such digit of " + (count + 1), wand.digit(digit), BarcodeWand.NONE);
+            }
+            DUE.isOutOfBounds("digit(9)", () -> wand.digit(9));
+        }
+        wand.clearMeasurement();
+        for (int digit = 0; digit <= 8; digit++) {
+            DUE.is("no digit of no times", wand.digit(digit), BarcodeWand.NONE);
+        }
+        DUE.isOutOfBounds("digit(9) of no times", () -> wand.digit(9));
+        DUE.isOutOfBounds("digit(-1) of no times", () -> wand.digit(-1));
+    }
+
+    // "if index is negative, or the measurement has no time with the index (index + 3)"
+    private static void testNearestToTheLastTimes() {
+        BarcodeWand wand = new BarcodeWand();
+        int[] four = {30, 10, 10, 20};
+        // the digits nearest to these four from the first one on, from the second one on, and so on
+        int[] nearest = {9, 2, 5, 0};
+        for (int size = 0; size <= 41; size++) {
+            int beyond = Math.max(0, size - 3);
+            DUE.isOutOfBounds("nearest(" + beyond + ") of " + size, () -> wand.nearest(beyond));
+            DUE.isOutOfBounds("nearest(-1) of " + size, () -> wand.nearest(-1));
+            // Greater by 3 this index would be negative.
+            DUE.isOutOfBounds("nearest of a wrap-around", () -> wand.nearest(Integer.MAX_VALUE - 2));
+            if (size >= 4) {
+                int last = size - 4;
+                DUE.is("nearest(" + last + ") of " + size, wand.nearest(last), nearest[last % 4]);
+                DUE.is("nearest(0) of " + size, wand.nearest(0), 9);
+            }
+            if (size < 41) {
+                wand.measure(four[size % 4]);
+            }
+        }
     }
 
     private static void testNothingIsCounted() {
